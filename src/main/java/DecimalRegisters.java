@@ -1,5 +1,3 @@
-import java.util.Arrays;
-
 /**
  * Six registers that hold decimals of up to 190 digits.
  *
@@ -154,11 +152,15 @@ public final class DecimalRegisters {
             return REFUSED;
         }
         result.become(a);
-        if (off > 0 && !roundOff(off, way)) {
-            return INEXACT;
-        }
-        if (off > 0 && result.digits.precision() > precision) {
-            cutOff(1);
+        if (off > 0) {
+            cutOff(off);
+            if (!settle(way)) {
+                return INEXACT;
+            }
+            if (result.digits.precision() > precision) {
+                // A carry has left a 1 with 0s alone, so that this cut needs no rounding.
+                cutOff(1);
+            }
         }
         return keep(k);
     }
@@ -352,11 +354,13 @@ public final class DecimalRegisters {
         return true;
     }
 
-    /** Whether the neighbour farther from 0 is taken; half tells where what was cut off lies. */
+    /** Whether the neighbour farther from 0 is taken; half is the order of what was cut off and a half. */
     private boolean isAwayFromZero(int way, int half) {
         switch (way) {
             case AWAY_FROM_ZERO:
                 return true;
+            case TO_ZERO:
+                return false;
             case UP:
                 return !result.minus;
             case DOWN:
@@ -372,13 +376,9 @@ public final class DecimalRegisters {
         }
     }
 
-    private boolean roundOff(int places, int way) {
-        split(result, one, result.scale - places);
-        return settle(way);
-    }
-
+    /** Cuts the result's last digits off; the top row keeps them for settle. */
     private void cutOff(int places) {
-        roundOff(places, TO_ZERO);
+        split(result, one, result.scale - places);
     }
 
     private void cutOffZeros() {
@@ -503,7 +503,9 @@ public final class DecimalRegisters {
         }
 
         void clear() {
-            Arrays.fill(limbs, 0L);
+            for (int n = 0; n < size; n++) {
+                limbs[n] = 0;
+            }
             size = 0;
         }
 
@@ -610,8 +612,16 @@ public final class DecimalRegisters {
                 carry = limb / BASE;
             }
             close(size, carry);
-            System.arraycopy(limbs, 0, limbs, far, size);
-            Arrays.fill(limbs, 0, far, 0L);
+            shift(far);
+        }
+
+        private void shift(int far) {
+            for (int n = size - 1; n >= 0; n--) {
+                limbs[n + far] = limbs[n];
+            }
+            for (int n = 0; n < far; n++) {
+                limbs[n] = 0;
+            }
             size += far;
         }
 
@@ -637,8 +647,9 @@ public final class DecimalRegisters {
         }
 
         /**
-         * How often the divisor goes into the limbs from a place on, or one more: the two highest
-         * limbs of the divisor tell no less, as they are at least BASE and the answer is below it.
+         * How often the divisor goes into the limbs from a place on, or once more. The divisor's two
+         * highest limbs are enough for that: as a number they are BASE or more, while the answer is
+         * below BASE, so that its lower limbs make a difference of less than 1.
          */
         private long guess(Natural divisor, int at) {
             int last = divisor.size - 1;
