@@ -1,12 +1,7 @@
 /** Counts the answers that are not the ones that are due, and prints each of them. */
 final class Check {
-    private final String test;
     private int answers = 0;
     private int wrong = 0;
-
-    Check(String test) {
-        this.test = test;
-    }
 
     void due(String call, long got, long want) {
         due(call, Long.toString(got), Long.toString(want));
@@ -39,7 +34,7 @@ final class Check {
     }
 
     /** Ends the program with 1 if an answer was wrong. */
-    void end() {
+    void end(String test) {
         System.out.println(test + ": " + answers + " answers, " + wrong + " not as due");
         if (hasFailed()) {
             System.exit(1);

@@ -15,7 +15,7 @@ public final class FaceTest {
             "int power(int, int, int)", "int compare(int, int)", "boolean same(int, int)", "int look(int, int)",
             "int digit(int, int)", "long whole(int)", "int write(int)", "int octet(int)");
 
-    private static final Check CHECK = new Check("FaceTest");
+    private static final Check CHECK = new Check();
 
     public static void main(String[] args) throws IllegalAccessException {
         classItself();
@@ -23,7 +23,7 @@ public final class FaceTest {
         constructor();
         methods();
         classesInside();
-        CHECK.end();
+        CHECK.end("FaceTest");
     }
 
     private static void classItself() {

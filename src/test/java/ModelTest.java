@@ -27,11 +27,11 @@ public final class ModelTest {
     public static void main(String[] args) {
         int runs = args.length > 0 ? Integer.parseInt(args[0]) : RUNS;
         long seed = args.length > 1 ? Long.parseLong(args[1]) : 1;
-        Check check = new Check("ModelTest");
+        Check check = new Check();
         for (int run = 0; run < runs && !check.hasFailed(); run++) {
             new ModelTest(seed * 1_000_003 + run, check).run();
         }
-        check.end();
+        check.end("ModelTest");
     }
 
     private void run() {

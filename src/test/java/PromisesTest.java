@@ -4,23 +4,7 @@ import java.math.BigInteger;
  * What the document promises, promise by promise: ordinary inputs, its edges, and wrong inputs.
  * Most cases make one call on a new object; a decimal is told as "digits/scale".
  */
-public final class PromisesTest {
-    private static final int REFUSED = DecimalRegisters.REFUSED;
-    private static final int NONE = DecimalRegisters.NONE;
-    private static final int FULL = DecimalRegisters.FULL;
-    private static final int INEXACT = DecimalRegisters.INEXACT;
-    private static final int[] NO_REGISTERS = {-1, 6, 7, Integer.MIN_VALUE, Integer.MAX_VALUE};
-    private static final int[] NO_WAYS = {-1, 8, Integer.MIN_VALUE, Integer.MAX_VALUE};
-    private static final int[] NO_SCALES = {-7, 7, Integer.MIN_VALUE, Integer.MAX_VALUE};
-    private static final int OUT = 5;
-    private static final String BEFORE = "-77/3";
-
-    private static final Check CHECK = new Check("PromisesTest");
-
-    private interface Call {
-        int on(DecimalRegisters x);
-    }
-
+public final class PromisesTest extends Bench {
     public static void main(String[] args) {
         promise1NewObject();
         promise2Load();
@@ -59,57 +43,7 @@ public final class PromisesTest {
         promise17Text();
         promise18Octet();
         promise19ZeroWritten();
-        CHECK.end();
-    }
-
-    private static String nines(int count) {
-        return "9".repeat(count);
-    }
-
-    private static String zeros(int count) {
-        return "0".repeat(count);
-    }
-
-    private static String ten(int power) {
-        return "1" + zeros(power);
-    }
-
-    /** A new object whose registers 0, 1, .. hold the decimals, and register OUT another one. */
-    private static DecimalRegisters with(String... decimals) {
-        DecimalRegisters x = new DecimalRegisters();
-        Check.fill(x, OUT, BEFORE);
-        for (int k = 0; k < decimals.length; k++) {
-            Check.fill(x, k, decimals[k]);
-        }
-        return x;
-    }
-
-    /** The call answers the precision of what register OUT holds then, and leaves the others. */
-    private static void kept(String name, Call call, String want, String... decimals) {
-        DecimalRegisters x = with(decimals);
-        CHECK.due(name, call.on(x), Check.precision(want));
-        CHECK.holds(name, x, OUT, want);
-        othersStay(name, x, decimals);
-    }
-
-    /** The call answers what tells that nothing was kept, and nothing is changed. */
-    private static void notKept(String name, Call call, int answer, String... decimals) {
-        DecimalRegisters x = with(decimals);
-        CHECK.due(name, call.on(x), answer);
-        CHECK.holds(name, x, OUT, BEFORE);
-        othersStay(name, x, decimals);
-    }
-
-    /** Looks at few digits alone, since an object is used for 512 calls at most. */
-    private static void othersStay(String name, DecimalRegisters x, String... decimals) {
-        for (int k = 0; k < decimals.length; k++) {
-            String want = decimals[k];
-            String digits = want.substring(0, want.indexOf('/'));
-            CHECK.due(name + ": precision of " + k, x.look(1, k), Check.precision(want));
-            CHECK.due(name + ": scale of " + k, x.look(2, k), Long.parseLong(want.substring(want.indexOf('/') + 1)));
-            CHECK.due(name + ": sign of " + k, x.look(0, k), new BigInteger(digits).signum());
-            CHECK.due(name + ": lowest digit of " + k, x.digit(k, 0), digits.charAt(digits.length() - 1) - '0');
-        }
+        CHECK.end("PromisesTest");
     }
 
     private static void promise1NewObject() {
@@ -400,12 +334,10 @@ public final class PromisesTest {
     }
 
     private static void parts(String i, String j, String q, String r) {
-        String name = "part of " + i + ", " + j;
-        kept(name, x -> x.part(OUT, 4, 0, 1), q, i, j);
-        DecimalRegisters x = with(i, j);
-        CHECK.due(name, x.part(4, OUT, 0, 1), Check.precision(q));
-        CHECK.holds(name, x, OUT, r);
-        othersStay(name, x, i, j);
+        String[] behind = state(i, j);
+        behind[OUT] = q;
+        behind[4] = r;
+        leaves("part of " + i + ", " + j, x -> x.part(OUT, 4, 0, 1), Check.precision(q), behind, i, j);
     }
 
     private static void promise6Part() {
@@ -577,7 +509,7 @@ public final class PromisesTest {
         turned(2, "0/6", "0/0");
         turned(2, "0/-6", "0/0");
         turned(2, nines(178) + zeros(12) + "/6", nines(178) + "/-6");
-        DecimalRegisters x = with("-50/1");
+        DecimalRegisters x = with("-50/1", "0/0");
         CHECK.due("a register turned itself", x.turn(2, 0, 0), 1);
         CHECK.holds("a register turned itself", x, 0, "-5/0");
         x.turn(1, 1, 1);
@@ -804,9 +736,7 @@ public final class PromisesTest {
             {"-" + nines(190) + "/6", "-" + nines(184) + "." + nines(6)},
         };
         for (String[] row : rows) {
-            DecimalRegisters x = with(row[0]);
-            CHECK.writes("write of " + row[0], x, 0, row[1]);
-            othersStay("write of " + row[0], x, row[0]);
+            leavesText("write of " + row[0], x -> x.write(0), row[1].length(), state(row[0]), row[1], row[0]);
         }
     }
 
