@@ -275,12 +275,29 @@ public final class BoundariesTest extends Bench {
             notKept("part by 0 into " + k + " twice", x -> x.part(k, k, 0, 1), REFUSED, "17/0", "0/0");
             notKept("too long a part into " + k + " twice", x -> x.part(k, k, 0, 1), REFUSED, MOST + "/0", "1/1");
         }
-        String[] behind = state("17/0", "5/0");
-        behind[4] = "3/0";
-        behind[OUT] = "2/0";
-        leaves("part into two", x -> x.part(4, OUT, 0, 1), 1, behind, "17/0", "5/0");
-        leaves("part of two over themselves", x -> x.part(1, 0, 0, 1), 1, state("2/0", "3/0"), "17/0", "5/0");
-        leaves("part of one and itself", x -> x.part(0, 1, 0, 0), 1, state("1/0", "0/0"), "17/0", "5/0");
+        for (int q = 0; q < REGISTERS; q++) {
+            for (int r = 0; r < REGISTERS; r++) {
+                if (q != r) {
+                    partedInto(q, r, "17/1", "5/1", "3/0", "2/1");
+                    partedInto(q, r, "-17/1", "5/1", "-3/0", "-2/1");
+                    partedInto(q, r, "17/1", "-5/1", "-3/0", "2/1");
+                    partedInto(q, r, "-17/1", "-5/1", "3/0", "-2/1");
+                    partedInto(q, r, "17/-1", "5/2", "3400/0", "0/2");
+                    partedInto(q, r, "17/2", "5/-1", "0/0", "17/2");
+                }
+            }
+        }
+        leaves("part of one and itself", x -> x.part(0, 1, 0, 0), 1, state("1/0", "0/2"), "-17/2", "5/0");
+        leaves("part of one and itself", x -> x.part(1, 0, 0, 0), 1, state("0/2", "1/0"), "-17/2", "5/0");
+    }
+
+    /** Registers q and r may be those of i and j. */
+    private static void partedInto(int q, int r, String i, String j, String wantQ, String wantR) {
+        String[] behind = state(i, j);
+        behind[q] = wantQ;
+        behind[r] = wantR;
+        String name = "part of " + i + ", " + j + " into " + q + " and " + r;
+        leaves(name, x -> x.part(q, r, 0, 1), Check.precision(wantQ), behind, i, j);
     }
 
     /** 6: "NONE if j is 0". */
@@ -296,23 +313,16 @@ public final class BoundariesTest extends Bench {
         leaves("part of 0, 0.000001", x -> x.part(4, OUT, 0, 1), 1, behind, "0/2", "1/6");
     }
 
-    private static void parted(String i, String j, String q, String r) {
-        String[] behind = state(i, j);
-        behind[4] = q;
-        behind[OUT] = r;
-        leaves("part of " + i + ", " + j, x -> x.part(4, OUT, 0, 1), Check.precision(q), behind, i, j);
-    }
-
     /** 6: "FULL.", by the digits of q; what is left always has room. */
     private static void partFull() {
-        parted(MOST + "/0", "1/0", MOST + "/0", "0/0");
-        parted(nines(189) + "/0", "1/1", nines(189) + "0/0", "0/1");
-        parted(nines(178) + "/-6", "1/6", nines(178) + zeros(12) + "/0", "0/6");
-        parted("-" + MOST + "/-6", "-" + MOST + "/-6", "1/0", "0/-6");
-        parted("-" + MOST + "/0", ten(189) + "/0", "-9/0", "-" + nines(189) + "/0");
-        parted(MOST + "/6", MOST + "/-6", "0/0", MOST + "/6");
-        parted(MOST + "/-6", MOST + "/6", ten(12) + "/0", "0/6");
-        parted(MOST + "/-6", ten(189) + "/6", "9" + nines(12) + "/0", nines(177) + zeros(12) + "/6");
+        partedInto(4, OUT, MOST + "/0", "1/0", MOST + "/0", "0/0");
+        partedInto(4, OUT, nines(189) + "/0", "1/1", nines(189) + "0/0", "0/1");
+        partedInto(4, OUT, nines(178) + "/-6", "1/6", nines(178) + zeros(12) + "/0", "0/6");
+        partedInto(4, OUT, "-" + MOST + "/-6", "-" + MOST + "/-6", "1/0", "0/-6");
+        partedInto(4, OUT, "-" + MOST + "/0", ten(189) + "/0", "-9/0", "-" + nines(189) + "/0");
+        partedInto(4, OUT, MOST + "/6", MOST + "/-6", "0/0", MOST + "/6");
+        partedInto(4, OUT, MOST + "/-6", MOST + "/6", ten(12) + "/0", "0/6");
+        partedInto(4, OUT, MOST + "/-6", ten(189) + "/6", "9" + nines(12) + "/0", nines(177) + zeros(12) + "/6");
         notKept("part, 191 digits by j", x -> x.part(4, OUT, 0, 1), FULL, MOST + "/0", "1/1");
         notKept("part, 191 digits by i", x -> x.part(4, OUT, 0, 1), FULL, MOST + "/-1", "1/0");
         notKept("part, 191 digits and a rest", x -> x.part(4, OUT, 0, 1), FULL, "-" + MOST + "/-1", "7/1");
