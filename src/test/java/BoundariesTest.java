@@ -346,6 +346,24 @@ public final class BoundariesTest extends Bench {
         scaled("120/2", 1, "12/1");
         scaled("0/-6", 6, "0/6");
         keptIn(0, "-1.25 to scale 3 over itself", x -> x.scale(0, 0, 3, 7), "-1250/3", "-125/2");
+        as0sAreAdded();
+    }
+
+    /** 4, 7, 10: 0s behind move each digit on, whatever place it stands at, and whatever stands beside it. */
+    private static void as0sAreAdded() {
+        for (int length = 1; length <= 14; length++) {
+            for (int n = 0; n <= 6; n++) {
+                int more = n;
+                String mixed = "12345678901234".substring(0, length);
+                for (String digits : new String[] {ten(length - 1), nines(length), mixed}) {
+                    String name = n + " 0s behind " + digits;
+                    String want = digits + zeros(n);
+                    kept(name, x -> x.scale(OUT, 0, more, 7), want + "/" + n, digits + "/0");
+                    kept(name + ", a sum", x -> x.reckon(0, OUT, 0, 1), want + "/" + n, digits + "/0", "0/" + n);
+                    kept(name + ", moved", x -> x.move(1, OUT, 0, more), want + "/0", digits + "/0");
+                }
+            }
+        }
     }
 
     /** 7: "FULL for a scale out of range", before INEXACT. */

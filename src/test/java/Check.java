@@ -1,7 +1,30 @@
 /** Counts the answers that are not the ones that are due, and prints each of them. */
 final class Check {
-    private int answers = 0;
+    private static final long MOST_MILLISECONDS_FOR_AN_ANSWER = 60_000;
+
+    private volatile int answers = 0;
     private int wrong = 0;
+
+    /** A call that fails to end would let a test hang, so another thread sees whether answers still come. */
+    Check() {
+        Thread watch = new Thread(this::failWhenNoAnswerComes);
+        watch.setDaemon(true);
+        watch.start();
+    }
+
+    private void failWhenNoAnswerComes() {
+        int seen = -1;
+        while (seen != answers) {
+            seen = answers;
+            try {
+                Thread.sleep(MOST_MILLISECONDS_FOR_AN_ANSWER);
+            } catch (InterruptedException e) {
+                return;
+            }
+        }
+        System.out.println("no answer came for a minute, behind " + seen + " answers");
+        Runtime.getRuntime().halt(1);
+    }
 
     void due(String call, long got, long want) {
         due(call, Long.toString(got), Long.toString(want));

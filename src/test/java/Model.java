@@ -222,6 +222,13 @@ final class Model {
         return k >= 0 && k < text.length() ? text.charAt(k) : -1;
     }
 
+    /** Register k becomes "digits/scale". */
+    void fill(int k, String decimal) {
+        int slash = decimal.indexOf('/');
+        BigInteger digits = new BigInteger(decimal.substring(0, slash));
+        registers[k] = new BigDecimal(digits, Integer.parseInt(decimal.substring(slash + 1)));
+    }
+
     String held(int i) {
         return registers[i].unscaledValue() + "/" + registers[i].scale();
     }

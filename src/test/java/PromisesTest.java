@@ -56,7 +56,9 @@ public final class PromisesTest extends Bench {
         CHECK.due("new, octet(0)", x.octet(0), -1);
         DecimalRegisters y = new DecimalRegisters();
         x.load(0, 5, 1);
+        x.write(0);
         CHECK.holds("another object", y, 0, "0/0");
+        CHECK.due("another object, octet(0)", y.octet(0), -1);
     }
 
     private static void loads(long v, int scale, String want) {
